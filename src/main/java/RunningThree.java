@@ -757,7 +757,10 @@ public final class RunningThree {
 
         static int odds(int runnerForce, int otherForce, int besides) {
             int odds = EVEN + runnerForce - otherForce - 2 * besides;
-            return Math.max(LEAST_ODDS, Math.min(MOST_ODDS, odds));
+            if (odds < LEAST_ODDS) {
+                return LEAST_ODDS;
+            }
+            return odds > MOST_ODDS ? MOST_ODDS : odds;
         }
 
         int fightFirst() {
@@ -1119,7 +1122,9 @@ public final class RunningThree {
         private final int[] order = new int[MOST_OTHERS];
         private final int[] coming = new int[MOST_FIGHTERS];
         private final int[] waits = new int[MOST_OTHERS];
-        private int blows;
+        // begins[j]: how many blows have fallen when he begins to fight the j-th; then all of them.
+        private final int[] begins = new int[MOST_OTHERS + 1];
+        private final int[] idle = new int[MOST_OTHERS];
         private final int[] turnAt = new int[MOST_BLOWS];
         private final int[] forceAt = new int[MOST_BLOWS];
         private final int[] runnerForces = new int[DOWN];
@@ -1206,35 +1211,52 @@ public final class RunningThree {
 
         private int foldBack(Scene s) {
             tellForces(s);
+            tellIdle();
             int first = s.hurts[0];
             settleEnds(first);
-            for (int b = blows - 1; b >= 0; b--) {
-                for (int h = DOWN - 1; h >= first; h--) {
-                    fold(h, b, others);
+            int last = waits[others - 1];
+            for (int j = others - 1; j >= 0; j--) {
+                for (int b = begins[j + 1] - 1; b >= begins[j]; b--) {
+                    int least = leastHurt(first, last, j, b);
+                    for (int h = DOWN - 1; h >= least; h--) {
+                        fold(h, b, others);
+                    }
                 }
             }
-            for (int m = waits[others - 1] - 1; m >= 0; m--) {
+            for (int m = last - 1; m >= 0; m--) {
                 foldMoment(m, first);
             }
             return values[first * WIDTH];
         }
 
         private void tellForces(Scene s) {
-            blows = 0;
+            int blows = 0;
             for (int j = 0; j < others; j++) {
                 int f = order[j];
+                begins[j] = blows;
                 for (int h = s.hurts[f]; h < DOWN; h++) {
                     turnAt[blows] = j;
                     forceAt[blows] = Kinds.force(s.kinds[f], s.strengths[f], h);
                     blows++;
                 }
             }
+            begins[others] = blows;
             for (int h = s.hurts[0]; h < DOWN; h++) {
                 runnerForces[h] = Kinds.force(s.kinds[0], s.strengths[0], h);
             }
         }
 
+        /** idle[j]: the most MOMENTS without a fight ahead of the j-th; waits begin when those ahead are DOWN. */
+        private void tellIdle() {
+            int most = 0;
+            for (int j = 0; j < others; j++) {
+                most = Math.max(most, waits[j] - begins[j]);
+                idle[j] = most;
+            }
+        }
+
         private void settleEnds(int first) {
+            int blows = begins[others];
             for (int b = 0; b < blows; b++) {
                 values[DOWN * WIDTH + b] = 0;
             }
@@ -1243,20 +1265,32 @@ public final class RunningThree {
             }
         }
 
-        /** By m fights at most m blows have fallen; upwards, as each value needs the later ones old. */
+        /** By MOMENT m there were m fights, less the idle ones; less HURT than that he can't be. */
+        private int leastHurt(int first, int m, int j, int b) {
+            return Math.max(first, first + m - idle[j] - b);
+        }
+
+        /** Upwards, as each value is made of the later ones as they are behind the MOMENT. */
         private void foldMoment(int m, int first) {
-            int there = 1;
-            while (there < others && waits[there] <= m) {
-                there++;
-            }
-            for (int b = 0; b < blows && b <= m; b++) {
-                if (turnAt[b] < there) {
+            int there = countThere(m);
+            for (int j = 0; j < there; j++) {
+                int least = Math.max(begins[j], m - idle[j] - (DOWN - 1 - first));
+                int most = Math.min(begins[j + 1] - 1, m);
+                for (int b = least; b <= most; b++) {
                     int last = Math.min(DOWN - 1, first + m - b);
-                    for (int h = first; h <= last; h++) {
+                    for (int h = leastHurt(first, m, j, b); h <= last; h++) {
                         fold(h, b, there);
                     }
                 }
             }
+        }
+
+        private int countThere(int m) {
+            int there = 1;
+            while (there < others && waits[there] <= m) {
+                there++;
+            }
+            return there;
         }
 
         private void fold(int h, int b, int there) {

@@ -1,6 +1,6 @@
 import java.util.Random;
 
-/** Runs of drawn calls (the same ones each time) on the class and on the model. */
+/** Runs of drawn calls (the same ones each time) on the class and on the model; more of them by an argument. */
 public final class AgainstModelTest {
     private static final int RUNS = 400, CALLS = 200;
 
@@ -14,7 +14,8 @@ public final class AgainstModelTest {
     }
 
     public static void main(String[] args) {
-        for (int run = 0; run < RUNS && Check.wrongSoFar() < 5; run++) {
+        int runs = args.length > 0 ? Integer.parseInt(args[0]) : RUNS;
+        for (int run = 0; run < runs && Check.wrongSoFar() < 5; run++) {
             new AgainstModelTest(run).go(run);
         }
         Check.end("AgainstModelTest");
