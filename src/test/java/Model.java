@@ -232,10 +232,19 @@ final class Model {
             return (int) w.chance(new HashMap<>());
         }
 
+        boolean caughtAheadOf(int t) {
+            World w = again();
+            if (w.state() == 0) {
+                w.runTo(t);
+            }
+            return w.moment < t;
+        }
+
         /** {T, how much}. */
         int[] best() {
             int[] best = {0, -1};
-            for (int t = moment; t <= moment + 60; t++) {
+            // Once he is caught ahead of T, all later ones are like it; that saves most of the time.
+            for (int t = moment; t <= moment + 60 && !caughtAheadOf(t); t++) {
                 int c = chanceBy(t);
                 if (c > best[1]) {
                     best = new int[] {t, c};
