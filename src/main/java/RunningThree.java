@@ -146,7 +146,7 @@ public final class RunningThree {
     }
 
     private int runOn() {
-        if (scene.isCaughtIn(scene.moment, false)) {
+        if (scene.isCaughtIn(scene.moment)) {
             scene.turnIn(scene.moment);
         }
         return NONE;
@@ -182,7 +182,7 @@ public final class RunningThree {
         if (scene.outcome() != GOES_ON) {
             return NOT;
         }
-        foretelling.begin(scene, false);
+        foretelling.begin(scene);
         return foretelling.chanceBy(t);
     }
 
@@ -193,8 +193,8 @@ public final class RunningThree {
         if (!mayTurn()) {
             return NOT;
         }
-        foretelling.begin(scene, false);
-        int most = foretelling.mostChance();
+        foretelling.begin(scene);
+        int most = foretelling.foresee(FORESEEN);
         return what == 0 ? foretelling.firstWith(most) : most;
     }
 
@@ -205,7 +205,8 @@ public final class RunningThree {
         if (!mayTurn()) {
             return NOT;
         }
-        foretelling.begin(scene, false);
+        foretelling.begin(scene);
+        foretelling.foresee(FORESEEN);
         return foretelling.lastWith(chance);
     }
 
@@ -216,24 +217,34 @@ public final class RunningThree {
         if (!mayTurn()) {
             return NOT;
         }
-        foretelling.begin(scene, true);
-        if (what == 0) {
-            return foretelling.chanceBy(t);
+        foretelling.begin(scene);
+        // They all come in one MOMENT, so wherever he TURNS the fights are the same: no T is better.
+        int chance = foretelling.chanceTogether();
+        if (what < 2) {
+            return chance;
         }
-        int most = foretelling.mostChance();
-        if (what == 1) {
-            return most;
-        }
-        foretelling.begin(scene, false);
-        return most < foretelling.mostChance() ? 1 : 0;
+        return chance < foretelling.foresee(FORESEEN) ? 1 : 0;
     }
 
     public int ditched() {
         if (!mayTurn()) {
             return NOT;
         }
-        foretelling.begin(scene, false);
-        return foretelling.bestDitch();
+        foretelling.begin(scene);
+        int most = foretelling.foresee(FORESEEN);
+        int where = NONE;
+        for (int c = 1; c < scene.cells; c++) {
+            if (scene.sorts[c] == PLAIN) {
+                foretelling.suppose(c, DITCH);
+                int chance = foretelling.foresee(FORESEEN);
+                foretelling.suppose(c, PLAIN);
+                if (chance > most) {
+                    most = chance;
+                    where = c;
+                }
+            }
+        }
+        return where;
     }
 
     public int ahead(int what) {
@@ -243,9 +254,21 @@ public final class RunningThree {
         if (!mayTurn()) {
             return NOT;
         }
-        foretelling.begin(scene, false);
-        int whom = foretelling.bestToHurt();
-        return what == 0 ? whom : foretelling.chanceWithOneHurt(whom);
+        foretelling.begin(scene);
+        int most = -1;
+        int whom = NONE;
+        for (int f = 1; f < scene.fighters; f++) {
+            if (scene.isUp(f)) {
+                foretelling.supposeHurt(f, scene.hurts[f] + 1);
+                int chance = foretelling.foresee(FORESEEN);
+                foretelling.supposeHurt(f, scene.hurts[f]);
+                if (chance > most) {
+                    most = chance;
+                    whom = f;
+                }
+            }
+        }
+        return what == 0 ? whom : most;
     }
 
     public int fields(int t, int n) {
@@ -255,7 +278,7 @@ public final class RunningThree {
         if (scene.outcome() != GOES_ON) {
             return NOT;
         }
-        foretelling.begin(scene, false);
+        foretelling.begin(scene);
         return foretelling.winsOf(scene, t, n);
     }
 
@@ -328,12 +351,12 @@ public final class RunningThree {
         if (refused < 0) {
             return refused;
         }
-        return what == 0 ? turnsThatFit(row, i) : firstTurnThatFits(row, i);
+        int last = lastFarTurn();
+        return what == 0 ? turnsThatFit(row, i, last) : firstTurnThatFits(row, i, last);
     }
 
-    private int turnsThatFit(Sheet row, int i) {
+    private int turnsThatFit(Sheet row, int i, int last) {
         int fitting = 0;
-        int last = lastFarTurn();
         for (int t = 0; t <= last; t++) {
             if (comeAsTold(t, row, i)) {
                 fitting++;
@@ -342,8 +365,7 @@ public final class RunningThree {
         return fitting;
     }
 
-    private int firstTurnThatFits(Sheet row, int i) {
-        int last = lastFarTurn();
+    private int firstTurnThatFits(Sheet row, int i, int last) {
         for (int t = 0; t <= last; t++) {
             if (comeAsTold(t, row, i)) {
                 return t;
@@ -354,7 +376,7 @@ public final class RunningThree {
 
     /** Without a RUNNER there is no MOMENT in which he can have TURNED, so not even 0 counts. */
     private int lastFarTurn() {
-        return scene.fighters == 0 ? -1 : scene.turnMoment(0, LAST_FAR, false);
+        return scene.fighters == 0 ? -1 : scene.turnMoment(0, LAST_FAR);
     }
 
     private boolean comeAsTold(int t, Sheet row, int i) {
@@ -383,7 +405,7 @@ public final class RunningThree {
         if (refused < 0) {
             return refused;
         }
-        foretelling.begin(scene, false);
+        foretelling.begin(scene);
         foretelling.foresee(n);
         for (int k = 0; k < n; k++) {
             row.put(i + k, foretelling.foreseen(k));
@@ -496,7 +518,7 @@ public final class RunningThree {
             switch (kind) {
                 case LAME: return shares(2 * cost, stride);
                 case FEIGNING:
-                    int feigned = pointsIn(kind, stride, FEIGNED);
+                    int feigned = FEIGNED * stride / 2;
                     return cost <= feigned ? shares(2 * cost, stride) : FEIGNED + shares(cost - feigned, stride);
                 default: return shares(cost, stride);
             }
@@ -681,41 +703,21 @@ public final class RunningThree {
             return start + Kinds.momentsFor(kind, Kinds.stride(kind, paces[fighter], hurts[fighter]), cost);
         }
 
-        int firstComesTo(int cell) {
-            int first = Integer.MAX_VALUE;
-            for (int f = 1; f < fighters; f++) {
-                if (isUp(f)) {
-                    first = Math.min(first, comesTo(f, cell));
-                }
-            }
-            return first;
-        }
-
-        /** When all come that keep together: POINTS only grow, so the last of them has the fewest. */
-        int lastComesTo(int cell) {
-            int last = 0;
-            for (int f = 1; f < fighters; f++) {
-                if (isUp(f)) {
-                    last = Math.max(last, comesTo(f, cell));
-                }
-            }
-            return last;
-        }
-
-        boolean isCaughtIn(int m, boolean together) {
+        boolean isCaughtIn(int m) {
             int cell = cellRunning(0, m);
-            if (cell == cells - 1) {
-                return true;
+            boolean caught = cell == cells - 1;
+            for (int f = 1; f < fighters && !caught; f++) {
+                caught = isUp(f) && comesTo(f, cell) <= m;
             }
-            return othersUp() > 0 && (together ? lastComesTo(cell) : firstComesTo(cell)) <= m;
+            return caught;
         }
 
         /** When he, who runs on from now, TURNS: in t, or CAUGHT ahead of it. */
-        int turnMoment(int now, int t, boolean together) {
+        int turnMoment(int now, int t) {
             int m = now;
             while (m < t) {
                 m++;
-                if (isCaughtIn(m, together)) {
+                if (isCaughtIn(m)) {
                     return m;
                 }
             }
@@ -847,13 +849,7 @@ public final class RunningThree {
         private final int[] letters = new int[LETTERS];
         private int length;
         private int at;
-        private int cells;
-        private final int[] sorts = new int[MOST_CELLS];
-        private int fighters;
-        private final int[] kinds = new int[MOST_FIGHTERS];
-        private final int[] strengths = new int[MOST_FIGHTERS];
-        private final int[] paces = new int[MOST_FIGHTERS];
-        private final int[] hurts = new int[MOST_FIGHTERS];
+        private final Scene draft = new Scene();
 
         boolean add(int letter) {
             if (length >= LETTERS) {
@@ -865,20 +861,15 @@ public final class RunningThree {
         }
 
         void setUp(Scene s) {
-            s.clear();
-            for (int c = 0; c < cells; c++) {
-                s.addCell(sorts[c]);
-            }
-            for (int f = 0; f < fighters; f++) {
-                s.addFighter(kinds[f], strengths[f], paces[f], hurts[f]);
-            }
+            draft.start = s.start;
+            draft.draw = s.draw;
+            s.takeFrom(draft);
         }
 
         /** Where it can't be read, at is the place of the FAULT. */
         boolean read() {
             at = 0;
-            cells = 0;
-            fighters = 0;
+            draft.clear();
             if (!readGround()) {
                 return false;
             }
@@ -886,29 +877,27 @@ public final class RunningThree {
         }
 
         private boolean readGround() {
-            while (cells < MOST_CELLS) {
+            while (draft.cells < MOST_CELLS) {
                 int sort = SORT_SIGNS.indexOf((char) peek());
-                if (sort < 0 || cells == 0 && sort != PLAIN) {
+                if (sort < 0 || draft.cells == 0 && sort != PLAIN) {
                     break;
                 }
-                sorts[cells] = sort;
-                cells++;
+                draft.addCell(sort);
                 at++;
             }
-            return cells > 0;
+            return draft.cells > 0;
         }
 
         private boolean readFighters() {
-            while (fighters < MOST_FIGHTERS) {
+            while (draft.fighters < MOST_FIGHTERS) {
                 if (!readFighter()) {
                     return false;
                 }
-                fighters++;
                 if (peek() == END) {
                     return true;
                 }
                 // Behind the last FIGHTER that there may be, no comma can stand.
-                if (fighters == MOST_FIGHTERS || !take(',')) {
+                if (draft.fighters == MOST_FIGHTERS || !take(',')) {
                     return false;
                 }
             }
@@ -933,10 +922,7 @@ public final class RunningThree {
             if (hurt < 0) {
                 return false;
             }
-            kinds[fighters] = kind;
-            strengths[fighters] = strength;
-            paces[fighters] = pace;
-            hurts[fighters] = hurt;
+            draft.addFighter(kind, strength, pace, hurt);
             return true;
         }
 
@@ -974,46 +960,48 @@ public final class RunningThree {
         private final Scene trial = new Scene();
         private final Chances chances = new Chances();
         private final int[] row = new int[FORESEEN];
-        private boolean together;
 
-        void begin(Scene s, boolean keepTogether) {
+        void begin(Scene s) {
             trial.takeFrom(s);
-            together = keepTogether;
             chances.forget();
         }
 
         int chanceBy(int t) {
+            int m = trial.moment;
             if (trial.hasTurned()) {
-                return chances.whenTurned(trial);
+                chances.takeComing(trial);
+            } else {
+                m = trial.turnMoment(m, t);
+                chances.tellComing(trial, m);
             }
-            return chances.whenTurning(trial, trial.turnMoment(trial.moment, t, together), together);
+            return chances.chanceFrom(trial, m);
         }
 
-        /** CHANCES by T now, 1 more, .., n of them; behind that in which he is CAUGHT all are like it. */
-        void foresee(int n) {
+        int chanceTogether() {
+            chances.tellAllAtOnce();
+            return chances.chanceFrom(trial, trial.moment);
+        }
+
+        /** CHANCES by T now, 1 more, .., n of them: the most; behind T in which he is CAUGHT all are like it. */
+        int foresee(int n) {
+            int most = 0;
+            int chance = 0;
             boolean caught = false;
             for (int k = 0; k < n && k < FORESEEN; k++) {
-                if (caught) {
-                    row[k] = row[k - 1];
-                } else {
+                if (!caught) {
                     int m = trial.moment + k;
-                    row[k] = chances.whenTurning(trial, m, together);
-                    caught = k > 0 && trial.isCaughtIn(m, together);
+                    chances.tellComing(trial, m);
+                    chance = chances.chanceFrom(trial, m);
+                    caught = k > 0 && trial.isCaughtIn(m);
                 }
+                row[k] = chance;
+                most = Math.max(most, chance);
             }
+            return most;
         }
 
         int foreseen(int k) {
             return within(k, 0, FORESEEN - 1) ? row[k] : 0;
-        }
-
-        int mostChance() {
-            foresee(FORESEEN);
-            int most = 0;
-            for (int k = 0; k < FORESEEN; k++) {
-                most = Math.max(most, row[k]);
-            }
-            return most;
         }
 
         /** Of what was foreseen last. */
@@ -1027,7 +1015,6 @@ public final class RunningThree {
         }
 
         int lastWith(int chance) {
-            foresee(FORESEEN);
             for (int k = FORESEEN - 1; k >= 0; k--) {
                 if (row[k] >= chance) {
                     return trial.moment + k;
@@ -1036,53 +1023,21 @@ public final class RunningThree {
             return NONE;
         }
 
-        int bestDitch() {
-            int most = mostChance();
-            int best = NONE;
-            for (int c = 1; c < trial.cells; c++) {
-                if (trial.sorts[c] == PLAIN) {
-                    trial.changeSort(c, DITCH);
-                    int chance = mostChance();
-                    trial.changeSort(c, PLAIN);
-                    if (chance > most) {
-                        most = chance;
-                        best = c;
-                    }
-                }
-            }
-            return best;
+        void suppose(int cell, int sort) {
+            trial.changeSort(cell, sort);
         }
 
-        int bestToHurt() {
-            int most = -1;
-            int whom = NONE;
-            for (int f = 1; f < trial.fighters; f++) {
-                if (trial.isUp(f)) {
-                    int chance = chanceWithOneHurt(f);
-                    if (chance > most) {
-                        most = chance;
-                        whom = f;
-                    }
-                }
+        void supposeHurt(int fighter, int hurt) {
+            if (trial.exists(fighter)) {
+                trial.hurts[fighter] = hurt;
+                chances.forget();
             }
-            return whom;
-        }
-
-        int chanceWithOneHurt(int fighter) {
-            if (!trial.exists(fighter)) {
-                return NONE;
-            }
-            chances.forget();
-            trial.hurts[fighter]++;
-            int chance = mostChance();
-            trial.hurts[fighter]--;
-            return chance;
         }
 
         /** How many of n runs from s he wins; THE DRAW of s goes on. */
         int winsOf(Scene s, int t, int n) {
             if (!trial.hasTurned()) {
-                trial.turnIn(trial.turnMoment(trial.moment, t, false));
+                trial.turnIn(trial.turnMoment(trial.moment, t));
             }
             int from = trial.moment;
             int wins = 0;
@@ -1139,23 +1094,26 @@ public final class RunningThree {
             }
         }
 
-        int whenTurned(Scene s) {
-            for (int f = 1; f < s.fighters; f++) {
-                coming[f] = s.coming[f];
-            }
-            return chanceFrom(s, s.moment);
+        void takeComing(Scene s) {
+            System.arraycopy(s.coming, 0, coming, 0, MOST_FIGHTERS);
         }
 
-        int whenTurning(Scene s, int m, boolean together) {
+        /** When they come, if he TURNS in m. */
+        void tellComing(Scene s, int m) {
             int cell = s.cellRunning(0, m);
-            int last = together ? s.lastComesTo(cell) : 0;
             for (int f = 1; f < s.fighters; f++) {
-                coming[f] = together ? last : s.comesTo(f, cell);
+                coming[f] = s.comesTo(f, cell);
             }
-            return chanceFrom(s, m);
         }
 
-        private int chanceFrom(Scene s, int m) {
+        void tellAllAtOnce() {
+            for (int f = 1; f < MOST_FIGHTERS; f++) {
+                coming[f] = 0;
+            }
+        }
+
+        /** He stands from m on, and they come as told. */
+        int chanceFrom(Scene s, int m) {
             putInOrder(s);
             if (others == 0) {
                 return MILLION;

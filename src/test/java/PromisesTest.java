@@ -600,6 +600,13 @@ public final class PromisesTest {
         due("late: turned", x.late(0), NOT);
         due("late: turned, and wrong", x.late(-1), BAD);
         lateBeforeTheEnd();
+        // By 0 the strong one is first (1 of 16, however many there are), then the weak one alone (8);
+        // by 1 the weak one comes first, and the strong one is there too (6, then 1).
+        RunningThree y = Check.fieldOf("./;p16-5,s91-5,p16-5");
+        due("late: by 0 alone", y.late(31250), 0);
+        due("late: by 0 alone", y.late(23438), 0);
+        due("late: by all", y.late(23437), 60);
+        due("best: by 0", y.best(1), 31250);
     }
 
     /**
