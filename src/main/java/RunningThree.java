@@ -533,6 +533,7 @@ public final class RunningThree {
     private static final class Scene {
         private static final int RUNS = NONE;
         private static final int EVEN = 8, LEAST_ODDS = 1, MOST_ODDS = 15;
+        private static final int NEVER = 1 << 30;
 
         private int cells = 1;
         private final int[] sorts = new int[MOST_CELLS];
@@ -675,18 +676,26 @@ public final class RunningThree {
         }
 
         int cellRunning(int fighter, int m) {
-            if (!isUp(fighter)) {
-                return 0;
-            }
-            int t = fighter == 0 ? m : Math.max(0, m - start);
-            return cellBy(pointsOf(fighter, hurts[fighter], t));
+            return isUp(fighter) ? cellBy(pointsOf(fighter, hurts[fighter], momentsOut(fighter, m))) : 0;
+        }
+
+        private int momentsOut(int fighter, int m) {
+            return fighter == 0 ? m : Math.max(0, m - start);
         }
 
         int cellNow(int fighter) {
             if (!hasTurned()) {
                 return cellRunning(fighter, moment);
             }
-            return fighter == 0 ? stand : Math.min(stand, cellRunning(fighter, moment));
+            return fighter == 0 ? stand : cellBehindTurn(fighter);
+        }
+
+        /** One that falls in the fight has come: to stay in CELL 0 is for those that were DOWN when he TURNED. */
+        private int cellBehindTurn(int fighter) {
+            if (coming[fighter] == NEVER) {
+                return 0;
+            }
+            return Math.min(stand, cellBy(pointsOf(fighter, hurts[fighter], momentsOut(fighter, moment))));
         }
 
         int comingOf(int fighter) {
@@ -728,7 +737,7 @@ public final class RunningThree {
             stand = cellRunning(0, m);
             moment = m;
             for (int f = 1; f < fighters; f++) {
-                coming[f] = comesTo(f, stand);
+                coming[f] = isUp(f) ? comesTo(f, stand) : NEVER;
             }
         }
 
@@ -783,7 +792,7 @@ public final class RunningThree {
 
         /** Passes the MOMENTS in which nobody is there: no DRAW is made in them. */
         void waitForNext() {
-            int next = Integer.MAX_VALUE;
+            int next = NEVER;
             for (int f = 1; f < fighters; f++) {
                 if (isUp(f)) {
                     next = Math.min(next, coming[f]);

@@ -325,7 +325,11 @@ final class Model {
             if (w.cell < 0) {
                 return w.cellRunning(f, w.moment);
             }
-            return f == 0 ? w.cell : Math.min(w.cell, w.cellRunning(f, w.moment));
+            if (f == 0) {
+                return w.cell;
+            }
+            boolean wasDownThen = w.come[f] == -4;
+            return wasDownThen ? 0 : Math.min(w.cell, w.where(w.pointsAt(f, w.moment)));
         }
         return w.cell < 0 || f == 0 || m.hurt == 6 ? -4 : w.come[f];
     }

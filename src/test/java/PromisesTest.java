@@ -151,6 +151,73 @@ public final class PromisesTest {
         y.moment();
         due("of: no farther than there", y.of(1, 5), 2);
         due("of: of a downed one", Check.fieldOf("...;p93-6,p16").of(0, 5), 0);
+        RunningThree z = Check.fieldOf("..........;p91,p16");
+        z.start(1);
+        z.moment();
+        z.turn();
+        z.moment();
+        z.moment();
+        due("of: no farther, though the ground goes on", z.of(1, 5), 1);
+        ofFallen();
+        ofFallenAndSlow();
+    }
+
+    /** One that falls where he stands is there; DOWN while he RUNS, or when he TURNED, it is in CELL 0. */
+    private static void ofFallen() {
+        RunningThree x = Check.fieldOf("...;p92,p11-5,p16-6,p11");
+        x.hurt(1, 6);
+        x.moment();
+        x.undo();
+        due("of: DOWN while he runs", x.of(1, 5), 0);
+        x.hurt(1, 5);
+        x.moment();
+        due("of: caught", x.count(4), 2);
+        same(x, 6, new int[] {NONE, 2, NONE, 2});
+        int before = x.of(1, 5);
+        due("of: on its way", before, 1);
+        int hurt = momentsUntilHurt(x, 1);
+        due("of: DOWN by the fight", x.count(6), 6);
+        same(x, 5, new int[] {2, 2, 0, 2});
+        due("of: comes, DOWN", x.of(1, 6), NONE);
+        x.image();
+        x.undo();
+        due("of: not yet fallen", x.count(6), 4);
+        due("of: undone", x.of(1, 6), 2);
+        for (int k = 1; k < hurt; k++) {
+            x.undo();
+        }
+        due("of: on its way again", x.of(1, 5), before);
+        x.undo();
+        x.hurt(1, 6);
+        x.moment();
+        x.moment();
+        x.moment();
+        same(x, 5, new int[] {2, 0, 0, 2});
+        x.restore();
+        same(x, 5, new int[] {2, 2, 0, 2});
+    }
+
+    /** A wound that makes fewer POINTS takes the fallen one back as it does those that are not DOWN. */
+    private static void ofFallenAndSlow() {
+        // In 5 MOMENTS it has half of 5 * 4 POINTS, and half of 5 * 3 (cut) from its sixth wound on.
+        RunningThree x = Check.fieldOf("...........;p95,l16-5");
+        x.moment();
+        x.moment();
+        due("of: caught", x.count(4), 10);
+        due("of: comes", x.of(1, 6), 5);
+        due("of: moments until it falls", momentsUntilHurt(x, 1), 3);
+        due("of: fallen", x.count(6), 2);
+        due("of: as many POINTS as it has, fallen", x.of(1, 5), x.points(1, 5));
+        due("of: fewer than he has", x.of(1, 5), 7);
+        due("of: he himself", x.of(0, 5), 10);
+    }
+
+    private static int momentsUntilHurt(RunningThree x, int who) {
+        int moments = 1;
+        while (moments < 8 && x.moment() != who) {
+            moments++;
+        }
+        return moments;
     }
 
     private static void same(RunningThree x, int what, int[] due) {
