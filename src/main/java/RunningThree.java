@@ -690,12 +690,16 @@ public final class RunningThree {
             return fighter == 0 ? stand : cellBehindTurn(fighter);
         }
 
-        /** One that falls in the fight has come: to stay in CELL 0 is for those that were DOWN when he TURNED. */
+        /** A wound in the fight takes nobody back; to stay in CELL 0 is for those that were DOWN when he TURNED. */
         private int cellBehindTurn(int fighter) {
             if (coming[fighter] == NEVER) {
                 return 0;
             }
-            return Math.min(stand, cellBy(pointsOf(fighter, hurts[fighter], momentsOut(fighter, moment))));
+            if (coming[fighter] <= moment) {
+                return stand;
+            }
+            // Not yet come it is short of him, and it is as HURT as when he TURNED: no bound is needed.
+            return cellBy(pointsOf(fighter, hurts[fighter], momentsOut(fighter, moment)));
         }
 
         int comingOf(int fighter) {

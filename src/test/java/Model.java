@@ -329,6 +329,10 @@ final class Model {
                 return w.cell;
             }
             boolean wasDownThen = w.come[f] == -4;
+            boolean hasCome = !wasDownThen && w.come[f] <= w.moment;
+            if (hasCome) {
+                return w.cell;
+            }
             return wasDownThen ? 0 : Math.min(w.cell, w.where(w.pointsAt(f, w.moment)));
         }
         return w.cell < 0 || f == 0 || m.hurt == 6 ? -4 : w.come[f];

@@ -160,6 +160,7 @@ public final class PromisesTest {
         due("of: no farther, though the ground goes on", z.of(1, 5), 1);
         ofFallen();
         ofFallenAndSlow();
+        ofWounded();
     }
 
     /** One that falls where he stands is there; DOWN while he RUNS, or when he TURNED, it is in CELL 0. */
@@ -197,7 +198,7 @@ public final class PromisesTest {
         same(x, 5, new int[] {2, 2, 0, 2});
     }
 
-    /** A wound that makes fewer POINTS takes the fallen one back as it does those that are not DOWN. */
+    /** A wound that makes fewer POINTS does not take the fallen one back from where it has come. */
     private static void ofFallenAndSlow() {
         // In 5 MOMENTS it has half of 5 * 4 POINTS, and half of 5 * 3 (cut) from its sixth wound on.
         RunningThree x = Check.fieldOf("...........;p95,l16-5");
@@ -207,9 +208,32 @@ public final class PromisesTest {
         due("of: comes", x.of(1, 6), 5);
         due("of: moments until it falls", momentsUntilHurt(x, 1), 3);
         due("of: fallen", x.count(6), 2);
-        due("of: as many POINTS as it has, fallen", x.of(1, 5), x.points(1, 5));
-        due("of: fewer than he has", x.of(1, 5), 7);
+        due("of: fewer POINTS than the CELL costs", x.points(1, 5), 7);
+        due("of: there all the same", x.of(1, 5), 10);
         due("of: he himself", x.of(0, 5), 10);
+        x.undo();
+        due("of: on its way again", x.of(1, 5), x.points(1, 4));
+    }
+
+    /** Wounds in the fight take nobody back, and leave those on their way where their POINTS bring them. */
+    private static void ofWounded() {
+        RunningThree x = Check.fieldOf("......;p93,p12,l11");
+        x.moment();
+        x.moment();
+        same(x, 5, new int[] {5, 4, 1});
+        same(x, 6, new int[] {NONE, 3, 10});
+        due("of: first wound", x.moment(), 1);
+        same(x, 5, new int[] {5, 5, 1});
+        due("of: second wound", x.moment(), 1);
+        due("of: fewer POINTS than the CELL costs", x.points(1, 4), 4);
+        same(x, 5, new int[] {5, 5, 2});
+        same(x, 6, new int[] {NONE, 3, 10});
+        x.image();
+        x.undo();
+        x.undo();
+        same(x, 5, new int[] {5, 4, 1});
+        x.restore();
+        same(x, 5, new int[] {5, 5, 2});
     }
 
     private static int momentsUntilHurt(RunningThree x, int who) {
