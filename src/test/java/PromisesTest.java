@@ -138,9 +138,9 @@ public final class PromisesTest {
         same(x, 6, new int[] {NONE, NONE, NONE, NONE});
         due("of: turned", x.turn(), 3);
         same(x, 6, new int[] {NONE, 4, 7, NONE});
-        for (int k = 0; k < 2; k++) {
-            x.moment();
-        }
+        x.moment();
+        due("of: on its way, by MOMENTS since START", x.of(2, 5), 1);
+        x.moment();
         due("of: has come, no farther", x.of(1, 5), 3);
         due("of: he stays there", x.of(0, 5), 3);
         due("of: not yet", x.of(2, 5), 2);
