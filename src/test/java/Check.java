@@ -1,7 +1,16 @@
+import java.io.IOException;
+import java.nio.file.Files;
+import java.nio.file.Path;
+
 /** Counts the answers that are not as due, and helps to set up a field. */
 final class Check {
+    private static final Path DOCUMENT = Path.of("../shared/DOC.md");
+
     private static int wrong = 0;
     private static int asked = 0;
+    private static String sentence = "";
+    private static int askedBefore = 0;
+    private static String document = "";
 
     private Check() {
     }
@@ -10,8 +19,39 @@ final class Check {
         asked++;
         if (got != want) {
             wrong++;
-            System.out.println(call + " answered " + got + ", due is " + want);
+            String of = sentence.isEmpty() ? "" : " [" + sentence + "]";
+            System.out.println(call + " answered " + got + ", due is " + want + of);
         }
+    }
+
+    /** What is asked from here on is asked for this sentence, which must stand so in the document. */
+    static void says(String words) {
+        endSentence();
+        sentence = words;
+        String text = documentText();
+        if (!text.isEmpty()) {
+            due("the document says so", text.contains(words) ? 1 : 0, 1);
+        }
+        askedBefore = asked;
+    }
+
+    /** A sentence that nothing was asked for has no test. */
+    private static void endSentence() {
+        if (!sentence.isEmpty() && asked == askedBefore) {
+            due("nothing was asked", 0, 1);
+        }
+    }
+
+    /** Empty where the document doesn't stand beside the project: then its words can't be compared. */
+    private static String documentText() {
+        if (document.isEmpty() && Files.isReadable(DOCUMENT)) {
+            try {
+                document = Files.readString(DOCUMENT).replaceAll("\\s+", " ");
+            } catch (IOException e) {
+                due("the document can't be read: " + e, 0, 1);
+            }
+        }
+        return document;
     }
 
     static void typeAll(RunningThree x, String text) {
@@ -47,6 +87,7 @@ final class Check {
     }
 
     static void end(String name) {
+        endSentence();
         System.out.println(name + ": " + asked + " answers, " + wrong + " not as due");
         if (wrong != 0) {
             System.exit(1);
