@@ -322,7 +322,7 @@ public final class GroundBoundsTest {
         State.answers(At.TURNED, 1, "of", 1, 5);
         State.answers(At.TURNED, 3, "of", 2, 5);
         State.answers(At.TURNED, 0, "of", 3, 5);
-        Check.says("6 the MOMENT in which it COMES (NONE: he RUNS; it is the RUNNER, DOWN).");
+        Check.says("6 the MOMENT in which it COMES (NONE: he RUNS; it is the RUNNER, DOWN). BAD.");
         int[] coming = {NONE, 8, 4, NONE};
         for (int f = 0; f < 4; f++) {
             State.answers(At.RUNNING, NONE, "of", f, 6);
@@ -450,7 +450,7 @@ public final class GroundBoundsTest {
         due("all five", Check.fieldOf(".;p11-6,p11-6,p11-6,p11-6,p11-6").count(6), 31);
         due("the last", Check.fieldOf(".;p11-5,p11-5,p11-5,p11-5,p11-6").count(6), 16);
         due("the first", Check.fieldOf(".;p11-6").count(6), 1);
-        Check.says("7 0 it goes on, 1 he has won, 2 he is DOWN, 3 nobody PURSUES, or there is no RUNNER.");
+        Check.says("7 0 it goes on, 1 he has won, 2 he is DOWN, 3 nobody PURSUES, or there is no RUNNER. BAD.");
         due("one of two is up", Check.fieldOf(".;p11-5,p11-6,p11-5").count(7), 0);
         due("none of two is up", Check.fieldOf(".;p11-5,p11-6,p11-6").count(7), 1);
         due("he is not", Check.fieldOf(".;p11-6,p11-6,p11-5").count(7), 2);
