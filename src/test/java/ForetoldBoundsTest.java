@@ -38,6 +38,7 @@ public final class ForetoldBoundsTest {
         aheadNotDown();
         ahead();
         fieldsRuns();
+        fieldsPlayedOut();
         fields();
         image();
         restore();
@@ -171,6 +172,11 @@ public final class ForetoldBoundsTest {
         x.turn();
         due("by 1, but he has TURNED in 0", x.chance(1), 187500);
         due("by 400, but he has TURNED in 0", x.chance(400), 187500);
+        RunningThree caught = Check.fieldOf(STRUNG_OUT);
+        caught.moment();
+        for (int t : new int[] {0, 1, 2, 400}) {
+            due("by " + t + ", but he was CAUGHT in 1", caught.chance(t), 250000);
+        }
     }
 
     // 17
@@ -416,6 +422,56 @@ public final class ForetoldBoundsTest {
         }
     }
 
+    /** Each run played out by calls is won or lost as FIELDS tells, and THE DRAW comes to the same. */
+    private static void fieldsPlayedOut() {
+        Check.says("each from now on, if he TURNS in MOMENT T, by DRAWS: how many he wins (THE DRAW goes on;");
+        // They come singly, with waits between, or to one who fights already; one was DOWN from the first; by START 3 one
+        // catches him, another is there a MOMENT later; long waits.
+        String[] grounds = {
+            "..........;s96,p51-3,l51-4,l31-5", "..../..v....//...v....;p95,p43-2,s24-4,l66-3", "...;p92-1,p13-4,f11-5",
+            "......;p73,p11-6,p22-3,l11-4,p55-5", "..............;p61,p33-1,p52-1", ".".repeat(30) + ";p96,l11-5,l11-4"};
+        for (String ground : grounds) {
+            for (int start : new int[] {0, 3}) {
+                for (int now = 0; now <= 2; now++) {
+                    for (int t : new int[] {0, 1, 2, 4, 400}) {
+                        playedOut(ground, start, now, t);
+                    }
+                }
+            }
+        }
+    }
+
+    private static RunningThree inMoment(String field, int start, int now) {
+        RunningThree x = Check.fieldOf(field);
+        x.start(start);
+        moments(x, now);
+        return x;
+    }
+
+    private static void playedOut(String field, int start, int now, int t) {
+        int first = 1 + 100 * now + t;
+        int draw = first;
+        int wins = 0;
+        for (int k = 0; k < 20; k++) {
+            RunningThree x = inMoment(field, start, now);
+            x.seed(draw);
+            for (int m = now; m < t && x.count(3) == 0; m++) {
+                x.moment();
+            }
+            x.turn();
+            for (int m = 0; m < 300 && x.count(7) == 0; m++) {
+                x.moment();
+            }
+            wins += x.count(7) == 1 ? 1 : 0;
+            draw = x.seed(0);
+        }
+        String told = " of " + field + " by " + start + ", " + now + ", " + t;
+        RunningThree x = inMoment(field, start, now);
+        x.seed(first);
+        due("fields" + told, x.fields(t, 20), wins);
+        due("THE DRAW" + told, x.seed(0), draw);
+    }
+
     private static void fields() {
         Check.says("FIELDS: how many he wins. BAD; NOT.");
         long[][] right = {{0, 1}, {0, 90}, {400, 1}, {400, 90}};
@@ -469,24 +525,30 @@ public final class ForetoldBoundsTest {
     /** Whatever is done behind the IMAGE, told and undone it is as it was, and more than once. */
     private static void kept(At at) {
         for (int way = 0; way < 2; way++) {
-            RunningThree x = at.made();
-            due("image", x.image(), 1);
-            for (int twice = 0; twice < 2; twice++) {
-                moments(x, 3);
-                x.undo();
-                x.turn();
-                moments(x, 9);
-                x.seed(4);
-                Check.read(x, "!");
-                Check.read(x, "...;f22-1,s33-2,l44-3");
-                x.start(7);
-                x.fighter(1, 2, 3);
-                x.hurt(0, 4);
-                x.moment();
-                due("restore", x.restore(), 1);
+            for (int times = 1; times <= 2; times++) {
+                RunningThree x = at.made();
+                due("image", x.image(), 1);
+                for (int k = 0; k < times; k++) {
+                    muchIsDone(x);
+                    due("restore", x.restore(), 1);
+                }
+                State.alike(at + ": all that was done behind image()", x, at.made(), way);
             }
-            State.alike(at + ": all that was done behind image()", x, at.made(), way);
         }
+    }
+
+    private static void muchIsDone(RunningThree x) {
+        moments(x, 3);
+        x.undo();
+        x.turn();
+        moments(x, 9);
+        x.seed(4);
+        Check.read(x, "!");
+        Check.read(x, "...;f22-1,s33-2,l44-3");
+        x.start(7);
+        x.fighter(1, 2, 3);
+        x.hurt(0, 4);
+        x.moment();
     }
 
     private static void restore() {

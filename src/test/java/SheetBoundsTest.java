@@ -25,6 +25,7 @@ public final class SheetBoundsTest {
         far();
         film();
         filmBits();
+        filmFromNow();
         sheet();
         newRow();
         drop();
@@ -322,6 +323,46 @@ public final class SheetBoundsTest {
             due("the lowest bits, in LANE " + lane, x.far(0, lane, 1, 1), lane == 0 ? 1 : NONE);
             due("a byte below 0, in LANE " + lane, x.strides(0, 0, lane, 2, 1), NOT);
         }
+    }
+
+    /** CHANCES by T 0 to 25 on that ground, by START 20: all of them can be told by FAR. */
+    private static final String FEW_CHANCES = "......//.v./...../././.././..//.v.//v.v;p12-3,l81-3,s91-5,f22-0";
+    private static final int[] CHANCES = {
+        5, 18, 23, 31, 40, 51, 51, 78, 78, 24, 32, 32, 32, 42, 52, 52, 66, 66, 84, 84, 97, 97, 97, 101, 101, 101};
+
+    private static void filmFromNow() {
+        Check.says("CHANCES by T now, 1 more, .. (n of them, 1 .. 24), an item each,");
+        for (int now = 0; now <= 2; now++) {
+            for (int n : new int[] {1, 2, 23, 24}) {
+                for (int k = 0; k < 24; k++) {
+                    filmed(now, n, k);
+                }
+            }
+        }
+    }
+
+    /** Item k of the film; behind the last of the n it is what it was. */
+    private static void filmed(int now, int n, int k) {
+        int lane = k % 4;
+        RunningThree x = Check.fieldOf(FEW_CHANCES);
+        x.start(20);
+        x.sheet(0, lane, 24);
+        x.item(0, lane, k, 99);
+        for (int m = 0; m < now; m++) {
+            x.moment();
+        }
+        due("film", x.film(n, 0, lane, 0), n);
+        int item = k < n ? CHANCES[now + k] : 99;
+        // A LAME one comes to the last CELL in START and twice its COST, if he TURNS there.
+        Check.read(x, groundOf(item / 2) + ";p16,l11");
+        x.start(item % 2);
+        due(n + " from " + now + " on, item " + k + ": " + item, x.far(0, lane, k, 1), (item / 2 + 5) / 6);
+    }
+
+    /** A ground whose last CELL is of that COST. */
+    private static String groundOf(int cost) {
+        String[] left = {"", ".", "/"};
+        return "." + "v".repeat(cost / 3) + left[cost % 3];
     }
 
     // 28

@@ -5,7 +5,9 @@ import java.util.Random;
  * length, with up to five fighters, where the model would be too slow.
  */
 public final class WhatIfTest {
-    private static final int FIELDS = 250;
+    private static final int FIELDS = 250, STEPS = 10;
+    /** From these a DRAW leaves 0 and 15 over by 16: the other one is HURT, he is. */
+    private static final int OTHER_HURT = seedFor(0), HE_HURT = seedFor(15);
 
     private final Random draws;
     private final String ground;
@@ -24,6 +26,7 @@ public final class WhatIfTest {
             WhatIfTest test = new WhatIfTest(k);
             test.ditched();
             test.later();
+            test.byMoments();
         }
         Check.end("WhatIfTest");
     }
@@ -117,5 +120,84 @@ public final class WhatIfTest {
         }
         Check.due("ahead(0) on " + ground + fighters, x.ahead(0), whom);
         Check.due("ahead(1) on " + ground + fighters, x.ahead(1), most);
+    }
+
+    private static int seedFor(int left) {
+        int s = 0;
+        while ((int) ((s * 1103515245L + 12345L) % (1L << 31)) / 65536 % 16 != left) {
+            s++;
+        }
+        return s;
+    }
+
+    /** CHANCE by T is that of one who has run on and TURNED; then it is made of those behind the MOMENT. */
+    private void byMoments() {
+        RunningThree x = on(ground);
+        if (x.count(7) != 0) {
+            return;
+        }
+        int t = draws.nextInt(12);
+        int foretold = x.chance(t);
+        for (int m = 0; m < t && x.count(3) == 0; m++) {
+            x.moment();
+        }
+        x.turn();
+        Check.due("chance(" + t + ") on " + ground + fighters + " by " + start, foretold, x.chance(0));
+        for (int k = 0; k < STEPS && x.count(7) == 0; k++) {
+            step(x);
+        }
+    }
+
+    private void step(RunningThree x) {
+        String told = " in " + x.count(2) + " on " + ground + fighters + " by " + start;
+        int chance = x.chance(400);
+        int odds = oddsNext(x);
+        x.image();
+        x.seed(OTHER_HURT);
+        int who = x.moment();
+        int won = chanceOrEnd(x);
+        if (odds == 0) {
+            Check.due("nobody is there" + told, who, RunningThree.NONE);
+            Check.due("nobody is there" + told, chance, won);
+            return;
+        }
+        x.restore();
+        x.seed(HE_HURT);
+        Check.due("he is HURT" + told, x.moment(), 0);
+        int lost = chanceOrEnd(x);
+        Check.due("chance" + told, chance, (odds * won + (16 - odds) * lost) / 16);
+        if (draws.nextInt(3) > 0) {
+            x.restore();
+            x.seed(OTHER_HURT);
+            Check.due("the other one is HURT" + told, x.moment(), who);
+        }
+    }
+
+    private static int chanceOrEnd(RunningThree x) {
+        int end = x.count(7);
+        return end == 0 ? x.chance(0) : end == 1 ? 1000000 : 0;
+    }
+
+    /** ODDS of the fight in the MOMENT that comes, 0 if nobody is there by its end. */
+    private static int oddsNext(RunningThree x) {
+        int next = x.count(2) + 1;
+        int first = 0;
+        int soonest = 0;
+        int there = 0;
+        for (int f = 1; f < x.count(1); f++) {
+            int comes = x.of(f, 6);
+            if (comes >= 0 && comes <= next) {
+                there++;
+                if (first == 0 || comes < soonest) {
+                    first = f;
+                    soonest = comes;
+                }
+            }
+        }
+        if (there == 0) {
+            return 0;
+        }
+        int odds = 8 + x.of(0, 4) - x.of(first, 4) - 2 * (there - 1);
+        return Math.max(1, Math.min(15, odds));
     }
 }
